@@ -11,6 +11,7 @@ final class DecideTest {
         core();
         alike();
         places();
+        named();
         hard();
         own();
         bound();
@@ -284,6 +285,11 @@ final class DecideTest {
         duePlaces("var x; claim a = 3 divides x;", 3);
         duePlaces("var x; claim a = 6 divides x;", 5);
         duePlaces("var x; claim a = 5 divides x;", 5);
+        // 3000 at most
+        duePlaces("var x y; claim a = -9*x + 6*y <= 69 and -4*x + 9*y <= 136 and 3*x <= 0 - 102 and 3 divides x + y + 1"
+            + " and -9*x - 2*y <= 182;", 3000);
+        duePlaces("var x y; claim a = -9*x + 6*y <= 69 and -4*x + 9*y <= 151 and 3*x <= 0 - 92 and 3 divides x + y + 1"
+            + " and -9*x - 2*y <= 177;", IntegerHouse.HARD);
         IntegerHouse x = Checks.house("var x; claim a = x <= 3; claim b = 3 divides x; claim c = b;");
         x.on(0, false);
         Checks.due("places", x.places(), 3);
@@ -304,6 +310,41 @@ final class DecideTest {
         Checks.tape(x, "x");
         Checks.due("extreme", x.extreme(true), IntegerHouse.HARD);
         Checks.due("fault", x.fault(), 0);
+    }
+
+    /** Claims that are named, and named by those: they are so just as they are, on or not. */
+    private static void named() {
+        IntegerHouse x = Checks.house("var x; claim a = x > 3; claim b = x < 9; claim c = 2 divides x; claim d = b and not c;"
+            + "claim e = d or c -> a; claim f = e and d == (b or c); claim g = f -> false;");
+        for (int c = 0; c < 7; c++) {
+            x.on(c, false);
+        }
+        for (int v = -3; v <= 12; v++) {
+            boolean a = v > 3;
+            boolean b = v < 9;
+            boolean c = v % 2 == 0;
+            boolean d = b && !c;
+            boolean e = !(d || c) || a;
+            boolean f = (e && d) == (b || c);
+            boolean[] is = {a, b, c, d, e, f, !f};
+            for (int k = 0; k < is.length; k++) {
+                Checks.due("holds(" + k + ", " + v + ")", x.holds(k, v, 0, 0, 0), is[k] ? 1 : 0);
+            }
+        }
+        Checks.tape(x, "d == (x < 9 and not 2 divides x)");
+        Checks.due("follows", x.follows(), 1);
+        Checks.tape(x, "(g == not f) and (d or c)");
+        Checks.due("follows", x.follows(), 0);
+        Checks.due("value", x.value(0), 9);
+        Checks.due("alike", x.alike(5, 6), 0);
+        x.on(3, true);
+        Checks.due("many", x.many(), -2);
+        x.on(0, true);
+        Checks.due("5 and 7", x.many(), 2);
+        x.on(6, true);
+        Checks.due("g speaks against them", x.core(), 3);
+        Checks.due("inCore(1)", x.inCore(1), 3);
+        Checks.due("inCore(2)", x.inCore(2), 6);
     }
 
     private static void hard() {

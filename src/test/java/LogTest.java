@@ -248,13 +248,25 @@ final class LogTest {
         x.on(0, false);
         Checks.read(x, "var z; claim c = z = 0;");
         x.sync();
+        x.cut(1, 0);
+        x.on(1, false);
+        x.on(0, true);
+        x.sync();
+        x.push();
+        x.sync();
+        Checks.due("start", x.start(), 6);
+        Checks.due("about(0, 0)", x.about(0, 0), 1);
+        Checks.due("about(1, 0)", x.about(1, 0), 0);
+        x.on(0, false);
+        x.on(1, true);
+        x.sync();
         x.push();
         x.on(1, false);
-        Checks.due("count(7)", x.count(7), 6);
+        Checks.due("count(7)", x.count(7), 10);
         x.cut(0, 100);
         Checks.due("sync", x.sync(), IntegerHouse.LOST);
-        Checks.due("start", x.start(), 4);
-        int[] counts = {3, 3, 2, 1, 0, 0, 1, 4};
+        Checks.due("start", x.start(), 8);
+        int[] counts = {3, 3, 2, 1, 0, 0, 3, 8};
         for (int what = 0; what < 8; what++) {
             Checks.due("count(" + what + ")", x.count(what), counts[what]);
         }
@@ -265,7 +277,7 @@ final class LogTest {
         Checks.due("pop", x.pop(), 0);
         Checks.due("count(0)", x.count(0), 2);
         Checks.due("about(0, 0)", x.about(0, 0), 1);
-        Checks.due("count(7)", x.count(7), 5);
+        Checks.due("count(7)", x.count(7), 9);
     }
 
     /** Records are changed on the disk, with right sums: acts that would be refused are passed over. */
@@ -354,19 +366,52 @@ final class LogTest {
         y.push();
         y.sync();
         Checks.due("start", y.start(), 0);
+        // block 2 was written before: now that block 1 is right again, both are used
         y.push();
-        y.cut(0, 0);
-        y.sync();
-        Checks.due("start", y.start(), 0);
-        y.push();
-        y.sync();
         y.cut(1, 0);
-        Checks.read(y, Checks.repeat(" ", 245));
+        y.sync();
+        y.push();
         y.pop();
-        y.cut(1, 0);
-        y.sync();
-        Checks.due("start", y.start(), 1);
-        Checks.due("count(6)", y.count(6), 1);
+        y.pop();
+        Checks.read(y, Checks.repeat(" ", 1000));
+        y.cut(5, 0);
+        Checks.due("sync", y.sync(), 5);
+        IntegerHouse z = new IntegerHouse();
+        for (int k = 0; k < 4; k++) {
+            z.push();
+            z.sync();
+        }
+        z.poke(1, 50, 1);
+        z.push();
+        z.cut(0, 0);
+        z.sync();
+        Checks.due("start", z.start(), 0);
+        z.poke(1, 50, 1);
+        z.push();
+        z.cut(0, 4);
+        z.sync();
+        // block 1 is torn, though all its bytes are as they were
+        Checks.due("verify", z.octet(1, 4), 3);
+        Checks.due("start", z.start(), 0);
+        z.push();
+        z.sync();
+        z.push();
+        z.pop();
+        z.cut(0, 0);
+        z.sync();
+        Checks.due("blocks 3 and 4 lie behind a torn one", z.start(), 1);
+        Checks.due("count(6)", z.count(6), 1);
+        z.push();
+        z.sync();
+        z.cut(2, 0);
+        z.push();
+        z.sync();
+        Checks.due("count(6)", z.count(6), 3);
+        z.push();
+        z.sync();
+        z.push();
+        Checks.due("sync", z.sync(), IntegerHouse.LOST);
+        Checks.due("start", z.start(), 4);
     }
 
     private static void verify() {
@@ -496,8 +541,14 @@ final class LogTest {
         Checks.due("push", y.push(), IntegerHouse.ROOM);
         y.cut(0, 255);
         Checks.due("sync", y.sync(), IntegerHouse.LOST);
-        Checks.due("start", y.start(), 99);
+        mend(y, 100);
+        Checks.due("block 100 is torn", y.start(), 99);
         Checks.due("count(3)", y.count(3), 1);
+        y.pop();
+        Checks.due("sync", y.sync(), 1);
+        Checks.due("verify", y.verify(), -1);
+        Checks.due("count(6)", y.count(6), 100);
+        Checks.due("push", y.push(), IntegerHouse.ROOM);
     }
 
     private static IntegerHouse down() {

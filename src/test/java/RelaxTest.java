@@ -233,6 +233,10 @@ final class RelaxTest {
             dueSearch(far, "x", 0, 1, w == 24999 ? 2 : 3, 0, 1, 0, 0, 0, 0, 0);
             dueSearch(far, "-x", 0, 1, 1, 0, 1, 0, 0, 0, 0, 0);
         }
+        // so many nodes at most
+        IntegerHouse deep = Checks.house("var x y; claim a = 2 * x - 2 * y = 1 and x >= 0 and x <= 999;");
+        dueSearch(deep, "x", 0, 100, 2, 0, 100, 0, 0, 0);
+        dueSearch(deep, "x", 0, 99, 2, 0, 99, 0, 0, 0);
         // cuts whose factors would come to be above 200
         IntegerHouse cuts = Checks.house("var x y z w; claim a = x >= -28 and x <= 51 and y >= -7 and y <= 7 and z >= -4 and z <= 50"
             + " and w >= -23 and w <= 16 and 1*x - 4*y + 18*z - 8*w = 124 and - 17*x + 20*y + 7*z - 1*w <= 89"

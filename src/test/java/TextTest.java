@@ -53,6 +53,9 @@ final class TextTest {
         Checks.dueFault("var x y.z;", 1, 7);
         Checks.dueFault("var x _;", 1, 6);
         Checks.due("read", Checks.read(new IntegerHouse(), "var abcdefg8; claim A1 = abcdefg8 + 999999 < 999999;"), 1);
+        Checks.dueFault(Checks.repeat(";", 2000), 2, 0);
+        Checks.dueFault(Checks.repeat("#", 2000), 1, 0);
+        Checks.dueFault("var x;" + Checks.repeat("claim a ", 240), 2, 14);
         // a wrong token before it is told first
         Checks.dueFault("var ; !", 2, 4);
     }
