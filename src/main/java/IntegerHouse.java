@@ -110,10 +110,12 @@ public final class IntegerHouse {
         int block = 1;
         for (int k = 0; k < Disk.BLOCKS && block <= used; k++) {
             block = disk.loadSync(block);
-            int size = disk.recordSize(0);
-            for (int from = 0; from < Disk.LOG && size > 0; from += size) {
+            int from = 0;
+            int size = disk.recordSize(from);
+            for (int r = 0; r < Disk.LOG && size > 0; r++) {
+                acts += redo(from, size) ? 1 : 0;
+                from += size;
                 size = disk.recordSize(from);
-                acts += size > 0 && redo(from, size) ? 1 : 0;
             }
         }
         disk.comeUp(used);

@@ -304,6 +304,16 @@ final class LogTest {
         again(x, 3, 8, 7);
         Checks.due("start", x.start(), 4);
         Checks.due("count(2)", x.count(2), 1);
+        // on(2^24, false): unknown, too
+        again(x, 3, 8, 7);
+        x.poke(3, 5, 1);
+        mend(x, 3);
+        Checks.due("start", x.start(), 4);
+        Checks.due("count(2)", x.count(2), 1);
+        again(x, 3, 5, 1);
+        Checks.due("start", x.start(), 5);
+        Checks.due("count(2)", x.count(2), 0);
+        again(x, 3, 8, 7);
         // on(0, 2): no record, the push behind it is passed over
         again(x, 3, 8, 7);
         x.poke(3, 12, 2);
@@ -425,6 +435,9 @@ final class LogTest {
         Checks.due("verify", x.verify(), 3);
         x.poke(2, 255, 128);
         Checks.due("verify", x.verify(), 2);
+        x.poke(1, 100, 2);
+        Checks.due("verify", x.verify(), 1);
+        x.poke(1, 100, 2);
         x.poke(2, 255, 128);
         x.poke(3, 200, 1);
         x.poke(4, 0, 9);

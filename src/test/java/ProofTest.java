@@ -171,6 +171,9 @@ final class ProofTest {
         dueWrong(x, " done;", 5, 1);
         dueWrong(x, "case x 1; else;", 5, 10);
         dueWrong(x, "case x 1; done;", 5, 10);
+        // 0 <= 0 is not FALSE
+        dueWrong(x, "case x 1; of a 1; sum 0 1 0 1; else;", 5, 31);
+        dueProve(x, "of a 1; sum 0 1 0 1;", 0);
         IntegerHouse y = Checks.house("var x y; claim a = 2 * x >= 3 and 2 * x <= 3; claim z = x <= 0 and x >= 1;");
         String first = "case x 1; of a 1; sum 2 1 1 2;";
         dueWrong(y, first + "done;", 5, 30);

@@ -91,6 +91,10 @@ final class RelaxTest {
         IntegerHouse x = Checks.house("var x; claim a = x < 9 and x > 2; claim b = x < 1 or x < 2;");
         Checks.due("b is not plain", relax(x, "!"), IntegerHouse.STATE);
         Checks.due("fault", x.fault(), 0);
+        IntegerHouse first = Checks.house("var x; claim a = x < 1 or x < 2; claim b = x < 1;");
+        Checks.due("a is not plain", relax(first, "x"), IntegerHouse.STATE);
+        first.on(0, false);
+        Checks.due("relaxed", relax(first, "x"), 1);
         x.on(1, false);
         Checks.due("relaxed", relax(x, "!"), -1000);
         Checks.due("fault", x.fault(), 1);
@@ -237,6 +241,10 @@ final class RelaxTest {
         IntegerHouse deep = Checks.house("var x y; claim a = 2 * x - 2 * y = 1 and x >= 0 and x <= 999;");
         dueSearch(deep, "x", 0, 100, 2, 0, 100, 0, 0, 0);
         dueSearch(deep, "x", 0, 99, 2, 0, 99, 0, 0, 0);
+        // -100000000 is not too great, -100000001 is
+        String small = " and y <= 20 * z and z <= 20 * w and w <= 25000 and x <= 9 and y >= 0 and z >= 0 and w >= 0;";
+        dueSearch(Checks.house("var x y z w; claim a = -2 * x <= 20 * y - 1" + small), "-x", 0, 1, 2, 0, 1, 0, 0);
+        dueSearch(Checks.house("var x y z w; claim a = -2 * x <= 20 * y + 1" + small), "-x", 0, 1, 3, 0, 1, 0, 0);
         // cuts whose factors would come to be above 200
         IntegerHouse cuts = Checks.house("var x y z w; claim a = x >= -28 and x <= 51 and y >= -7 and y <= 7 and z >= -4 and z <= 50"
             + " and w >= -23 and w <= 16 and 1*x - 4*y + 18*z - 8*w = 124 and - 17*x + 20*y + 7*z - 1*w <= 89"
