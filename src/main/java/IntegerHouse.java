@@ -1339,8 +1339,8 @@ public final class IntegerHouse {
         }
 
         private void next() {
-            at = Math.max(0, Math.min(at + 1, lexer.size));
-            if (at < lexer.kinds.length && at < lexer.spots.length) {
+            at = at < lexer.size ? at + 1 : at;
+            if (at >= 0 && at <= TAPE) {
                 kind = lexer.kinds[at];
                 place = lexer.spots[at];
             }
@@ -1995,8 +1995,8 @@ public final class IntegerHouse {
     }
 
     private static long commonDivisor(long a, long b) {
-        long x = Math.abs(a);
-        long y = Math.abs(b);
+        long x = a < 0 ? -a : a;
+        long y = b < 0 ? -b : b;
         for (int k = 0; k < 200 && y != 0; k++) {
             long rest = x % y;
             x = y;
