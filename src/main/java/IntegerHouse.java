@@ -2281,7 +2281,7 @@ public final class IntegerHouse {
         private static final int MANY = 1000000000, ENDLESS = -2, PLACES = 3000;
         /** Told values are below 2^48 in size: what is beyond this has no end, or is told by no one. */
         private static final long BEYOND = 1L << 52;
-        private static final long NOTHING = Long.MIN_VALUE;
+        private static final long NOTHING = 0x8000000000000000L;
         private static final int LIMBS = 1100, LIMB = 1000000000, LIMB_DIGITS = 9;
 
         private final House house;
