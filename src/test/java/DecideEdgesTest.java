@@ -31,6 +31,7 @@ final class DecideEdgesTest {
         linePlaces();
         own();
         ownLetters();
+        ownOfMany();
         bound();
         refusals();
         audit();
@@ -672,6 +673,36 @@ final class DecideEdgesTest {
             for (int letter : new int[] {-1, letters, 16}) {
                 Checks.dueThrow("half(0, " + letter + ")", IndexOutOfBoundsException.class, () -> x.half(0, letter));
                 Checks.dueThrow("takes(0, " + letter + ")", IndexOutOfBoundsException.class, () -> x.takes(0, letter));
+            }
+        }
+    }
+
+    /** Own forms of some thousand places, against the plain model. */
+    private static void ownOfMany() {
+        String[] texts = {PLACES_3000, PLACES_3000.replace("a and b and c and d and e", "(a or b) == (c or d and e)"),
+            PLACES_3001.replace("88", "87").replace("claim all = a and b", "claim all = a -> b").replace("<= 176", "<= 170"),
+            "var x y z; claim a = true; claim b = true; claim c = true; claim d = true; claim e = true;"
+                + "claim f = 7 divides x + 2 * y - z and 11 divides 3 * x - y + 5 * z or 9 divides x + y;"};
+        for (String text : texts) {
+            IntegerHouse x = Checks.house(text);
+            Model model = new Model();
+            model.end(0);
+            for (int from = 0; from < text.length(); from += 20) {
+                int[] n = new int[5];
+                for (int k = 0; k < 20 && from + k < text.length(); k++) {
+                    n[k / 4] |= text.charAt(from + k) << 24 - 8 * (k % 4);
+                }
+                model.feed(n[0], n[1], n[2], n[3], n[4]);
+            }
+            model.end(text.length());
+            Checks.due("read", model.read(), 6);
+            int states = x.own(5);
+            Checks.due("states of " + text, states, model.own(5));
+            for (int k = 0; k < states; k++) {
+                for (int letter = 0; letter < 1 << x.count(0); letter++) {
+                    Checks.due("half(" + k + ", " + letter + ")", x.half(k, letter), model.half(k, letter));
+                    Checks.due("takes(" + k + ", " + letter + ")", x.takes(k, letter), model.takes(k, letter));
+                }
             }
         }
     }

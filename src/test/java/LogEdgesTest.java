@@ -488,6 +488,10 @@ final class LogEdgesTest {
         dueStart("no such number: 0", 1, 1, 3, 0, 3);
         dueStart("no such number: 5", 1, 1, 3, 5, 3);
         dueStart("no such number: 255", 1, 1, 3, 255, 3);
+        for (int number : new int[] {0, 5, 6, 17, 129, 130, 131, 132, 255}) {
+            dueStart("no such number, and what would be a record of another", 1, 1, 3, number, 0, 0, 3, 3, 3, 3, 3, 3, 3, 3);
+            dueStart("no such number, and one more of a text", 1, 1, 3, number, 0, 2, 32, 32, 3, 3);
+        }
         dueStart("no such number at the first one", 0, 0, 9, 3, 3);
         dueStart("too few bytes of on: one", 1, 1, 3, 2);
         dueStart("too few bytes of on: eight", 1, 1, 3, 2, 0, 0, 0, 0, 0, 0, 0);

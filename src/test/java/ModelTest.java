@@ -232,7 +232,7 @@ final class ModelTest {
                 }
                 break;
             case 4:
-                tape(texts.plainText());
+                tape(texts.one(4) ? texts.denseText() : texts.plainText());
                 call("read");
                 break;
             case 5: call("on", claim(), texts.one(2)); break;
@@ -280,12 +280,21 @@ final class ModelTest {
         }
     }
 
+    private void knowAtoms() {
+        int[] atoms = new int[Math.max(0, model.count(1))];
+        for (int c = 0; c < atoms.length; c++) {
+            atoms[c] = model.about(c, 0) == 1 && model.about(c, 3) == 1 ? model.about(c, 1) : 0;
+        }
+        texts.knowAtoms(atoms);
+    }
+
     private void proofCall() {
+        knowAtoms();
         switch (texts.below(5)) {
             case 0:
             case 1:
             case 2:
-                tape(texts.one(3) ? texts.mangled(texts.proof()) : texts.proof());
+                tape(texts.one(6) ? texts.mangled(texts.proof()) : texts.proof());
                 call("prove");
                 for (int k = 0; k < 6; k++) {
                     call("line", texts.below(12), texts.below(7) - 1);

@@ -372,6 +372,20 @@ final class TextEdgesTest {
         Checks.dueFault(X + "claim a = " + eleven + "not 2 divides [x]" + closes + ";", 5, 41);
         dueRead(X + "claim a = " + eleven + "min[x, x] < max[x, x]" + closes + ";", 1);
         Checks.dueFault(X + "claim a = " + eleven + "min[x, [x]] < 1" + closes + ";", 5, 34);
+        // one that was closed makes place for one, not for two
+        String[] closed = {"(true)", "not true", "[x] < 1", "abs[x] < 1", "2 divides [x]", "((true))", "not not true", "[[x]] < [[x]]"};
+        String ten = eleven.substring(1);
+        for (String part : closed) {
+            int one = part.startsWith("((") || part.startsWith("[[") || part.startsWith("not not") ? 1 : 0;
+            String before = X + "claim a = " + (one == 0 ? eleven : ten) + part + " and ";
+            Checks.dueFault(before + (one == 0 ? "((" : "(((") + "true;", 5, before.length() + 1 + one);
+            Checks.dueFault(before + (one == 0 ? "not not " : "not not not ") + "true;", 5, before.length() + 4 + 4 * one);
+            Checks.dueFault(before + (one == 0 ? "[[" : "[[[") + "x;", 5, before.length() + 1 + one);
+            String ends = (one == 0 ? closes : closes.substring(1)) + ";";
+            dueRead(before + (one == 0 ? "(true)" : "((true))") + ends, 1);
+            dueRead(before + (one == 0 ? "not true" : "not not true") + ends, 1);
+            dueRead(before + (one == 0 ? "[x] < [x]" : "[[x]] < [[x]]") + ends, 1);
+        }
         // what cannot come is 2, be it one too many or not
         Checks.dueFault(X + "claim a = " + eleven + "(true (" + closes + ";", 2, 33);
         // terms that are asked for, too

@@ -155,8 +155,13 @@ final class Texts {
     String first(int style) {
         StringBuilder all = new StringBuilder(varDecl(style == 0 || style == 2 ? 2 : 4));
         int n = 1 + below(3);
+        if (style == 3 && !variables.isEmpty()) {
+            String name = freshClaim();
+            claims.add(name);
+            all.append("claim ").append(name).append(" = ").append(variables.get(0)).append(" <= 0 and ").append(variables.get(0)).append(" >= 1 ; ");
+        }
         for (int k = 0; k < n; k++) {
-            all.append(style == 1 || style == 3 ? plainText() : claimText(style));
+            all.append(style == 1 && one(3) ? denseText() : style == 1 || style == 3 ? plainText() : claimText(style));
         }
         return spaced(all.toString());
     }
@@ -193,6 +198,27 @@ final class Texts {
         }
         if (!variables.isEmpty() && one(2)) {
             all.append(" and ").append(bounds());
+        }
+        claims.add(name);
+        return all + " ; ";
+    }
+
+    /** Rows of great factors in all variables: their vertices have great denominators. */
+    String denseText() {
+        String name = freshClaim();
+        StringBuilder all = new StringBuilder("claim " + name + " = true");
+        int n = 2 + below(4);
+        for (int k = 0; k < n; k++) {
+            all.append(" and ");
+            for (int v = 0; v < variables.size(); v++) {
+                all.append(one(2) ? (v == 0 ? "- " : " - ") : v == 0 ? "" : " + ").append(one(5) ? below(21) : 12 + below(9)).append(" * ")
+                    .append(variables.get(v));
+            }
+            all.append(variables.isEmpty() ? "0 <= " : one(6) ? " = " : " <= ").append(one(3) ? below(100000) : below(300));
+        }
+        for (String variable : variables) {
+            all.append(one(4) ? "" : " and " + variable + " >= - " + below(one(4) ? 99999 : 40));
+            all.append(one(4) ? "" : " and " + variable + " <= " + below(one(4) ? 99999 : 40));
         }
         claims.add(name);
         return all + " ; ";
@@ -355,30 +381,110 @@ final class Texts {
             "mod [ " + v + " + 999999 , 2 ] = 1", "mod [ " + v + " - 999999 - 1 , 2 ] = 1", "mod [ " + v + " - 999998 , 5 ] = 1");
     }
 
+    /** How many atoms of a plain claim that is on a proof can take: 0 of others. */
+    private int[] taken = new int[0];
+
+    void knowAtoms(int[] atoms) {
+        taken = atoms;
+    }
+
+    /** Whether a proof has no wrong line but by its numbers' growth. */
+    private boolean neat;
+
+    private String ofLine() {
+        int claim = claims.isEmpty() ? -1 : below(claims.size());
+        for (int k = 0; k < 30 && claim >= 0 && !isTaken(claim); k++) {
+            claim = below(claims.size());
+        }
+        boolean wrong = !neat && one(30);
+        int atoms = claim >= 0 && claim < taken.length ? taken[claim] : 0;
+        String name = claim < 0 || wrong ? pick("nope", "x") : claims.get(claim);
+        return "of " + name + " " + (!neat && one(30) ? pick(0, atoms + 1) : 1 + below(Math.max(1, atoms))) + " ; ";
+    }
+
+    private boolean isTaken(int claim) {
+        String name = claims.get(claim);
+        return claim < taken.length && taken[claim] > 0 && !name.equals("sum") && !name.equals("cut");
+    }
+
+    private List<Integer> known = new ArrayList<>();
+    /** Of open cases: where their part begins, below 0 in the second one. */
+    private final List<Integer> parts = new ArrayList<>();
+    private int told;
+
+    private int line() {
+        return known.isEmpty() || !neat && one(40) ? pick(0, told + 1, 1) : known.get(below(known.size()));
+    }
+
+    private void tellLine() {
+        told++;
+        known.add(told);
+    }
+
+    /** Two atoms of a claim that speak against one another, if the texts told it as their first one. */
+    private String refuted() {
+        StringBuilder all = new StringBuilder();
+        all.append("of ").append(claims.get(0)).append(" 1 ; of ").append(claims.get(0)).append(" 2 ; ");
+        tellLine();
+        tellLine();
+        int times = 1 + below(3);
+        all.append("sum ").append(times).append(' ').append(told - 1).append(' ').append(times).append(' ').append(told).append(" ; ");
+        tellLine();
+        return all.toString();
+    }
+
+    private String endOfPart() {
+        int begins = parts.get(parts.size() - 1);
+        List<Integer> left = new ArrayList<>();
+        for (int i : known) {
+            if (i < Math.abs(begins)) {
+                left.add(i);
+            }
+        }
+        known = left;
+        parts.remove(parts.size() - 1);
+        if (begins > 0) {
+            parts.add(-told - 1);
+        }
+        tellLine();
+        return begins > 0 ? "else ; " : "done ; ";
+    }
+
     String proof() {
         StringBuilder all = new StringBuilder();
-        int n = one(15) ? 195 + below(10) : 1 + below(14);
-        int open = 0;
+        known = new ArrayList<>();
+        parts.clear();
+        told = 0;
+        int n = one(15) ? 195 + below(10) : 1 + below(20);
+        neat = one(2);
+        boolean refutes = !claims.isEmpty() && (neat || one(2));
         for (int k = 0; k < n; k++) {
-            int i = 1 + below(k + 2);
-            int j = 1 + below(k + 2);
-            String claim = claims.isEmpty() || one(20) ? pick("nope", "x") : claims.get(below(claims.size()));
             int kind = below(k < 2 ? 3 : 10);
-            if (n > 190) {
-                kind = k < 2 ? 0 : one(30) ? 9 : 5;
-            }
-            if (kind < 3) {
-                all.append("of ").append(claim).append(' ').append(one(12) ? below(9) : 1 + below(3)).append(" ; ");
+            if (n > 190 && k > 1 && kind != 9) {
+                all.append("cut 1 1 ; ");
+                tellLine();
+            } else if (kind < 3) {
+                all.append(ofLine());
+                tellLine();
+            } else if (kind < 5) {
+                all.append("sum ").append(below(one(6) && !neat ? 1000000 : 4)).append(' ').append(line()).append(' ').append(below(9)).append(' ')
+                    .append(line()).append(" ; ");
+                tellLine();
             } else if (kind < 6) {
-                all.append("sum ").append(below(one(4) ? 1000000 : 9)).append(' ').append(i).append(' ').append(below(9)).append(' ').append(j).append(" ; ");
-            } else if (kind < 7) {
-                all.append("cut ").append(i).append(' ').append(one(4) ? 1 + below(4) : pick(0, 1, 1, 2)).append(" ; ");
-            } else if (kind < 9) {
-                all.append("case ").append(one(12) ? "nope" : variable()).append(one(3) ? " - " : " ").append(below(20)).append(" ; ");
-                open++;
-            } else {
-                all.append(open > 0 && one(2) ? "done ; " : "else ; ");
+                all.append("cut ").append(line()).append(' ').append(one(9) && !neat ? below(4) : 1).append(" ; ");
+                tellLine();
+            } else if (kind < 8) {
+                all.append("case ").append(one(40) && !neat ? "nope" : variable()).append(one(3) ? " - " : " ").append(below(20)).append(" ; ");
+                parts.add(told + 1);
+                tellLine();
+            } else if (!neat && one(20)) {
+                all.append(pick("done ; ", "else ; "));
+            } else if (!parts.isEmpty()) {
+                all.append(refutes ? refuted() : "").append(endOfPart());
             }
+        }
+        while (refutes && !parts.isEmpty() && !one(30)) {
+            all.append(refuted()).append(endOfPart());
         }
         return all.toString();
     }
