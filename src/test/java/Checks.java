@@ -44,15 +44,44 @@ final class Checks {
     /** Puts a text on the tape, in place of what it has. */
     static void tape(IntegerHouse house, String text) {
         house.end(0);
-        int[] numbers = new int[5];
         for (int from = 0; from < text.length(); from += 20) {
-            java.util.Arrays.fill(numbers, 0);
-            for (int k = 0; k < 20 && from + k < text.length(); k++) {
-                numbers[k / 4] |= (text.charAt(from + k) & 255) << 24 - 8 * (k % 4);
-            }
-            house.feed(numbers[0], numbers[1], numbers[2], numbers[3], numbers[4]);
+            int[] n = numbers(text, from);
+            house.feed(n[0], n[1], n[2], n[3], n[4]);
         }
         house.end(text.length());
+    }
+
+    static void tape(Model model, String text) {
+        model.end(0);
+        for (int from = 0; from < text.length(); from += 20) {
+            int[] n = numbers(text, from);
+            model.feed(n[0], n[1], n[2], n[3], n[4]);
+        }
+        model.end(text.length());
+    }
+
+    /** Twenty bytes of a text, as feed() takes them; 0s behind its end. */
+    static int[] numbers(String text, int from) {
+        int[] numbers = new int[5];
+        for (int k = 0; k < 20 && from + k < text.length(); k++) {
+            numbers[k / 4] |= (text.charAt(from + k) & 255) << 24 - 8 * (k % 4);
+        }
+        return numbers;
+    }
+
+    /** A house whose claims have so many rows, of two variables. */
+    static IntegerHouse rows(int many) {
+        IntegerHouse x = house("var x y;");
+        int left = many;
+        for (int c = 0; left > 0; c++) {
+            StringBuilder text = new StringBuilder("claim c" + c + " = true");
+            for (int k = 0; k < 12 && left > 0; k++) {
+                text.append(" and x + ").append(c).append(" * y <= ").append(50 + k);
+                left--;
+            }
+            due("read", read(x, text + ";"), 1);
+        }
+        return x;
     }
 
     static IntegerHouse house(String text) {

@@ -686,15 +686,7 @@ final class DecideEdgesTest {
         for (String text : texts) {
             IntegerHouse x = Checks.house(text);
             Model model = new Model();
-            model.end(0);
-            for (int from = 0; from < text.length(); from += 20) {
-                int[] n = new int[5];
-                for (int k = 0; k < 20 && from + k < text.length(); k++) {
-                    n[k / 4] |= text.charAt(from + k) << 24 - 8 * (k % 4);
-                }
-                model.feed(n[0], n[1], n[2], n[3], n[4]);
-            }
-            model.end(text.length());
+            Checks.tape(model, text);
             Checks.due("read", model.read(), 6);
             int states = x.own(5);
             Checks.due("states of " + text, states, model.own(5));

@@ -83,12 +83,8 @@ final class ModelTest {
     private void tape(String text) {
         told.append("\"").append(text).append("\"\n");
         call("end", 0);
-        int[] n = new int[5];
         for (int from = 0; from < text.length() && from + 20 <= 2000; from += 20) {
-            java.util.Arrays.fill(n, 0);
-            for (int k = 0; k < 20 && from + k < text.length(); k++) {
-                n[k / 4] |= (text.charAt(from + k) & 255) << 24 - 8 * (k % 4);
-            }
+            int[] n = Checks.numbers(text, from);
             call("feed", n[0], n[1], n[2], n[3], n[4]);
         }
         call("end", Math.min(2000, text.length()));

@@ -260,7 +260,7 @@ final class ProofEdgesTest {
             boolean is = i == 1 || i >= 5;
             String line = "sum 1 " + i + " 0 1;";
             if (is) {
-                dueProve(x, text + line, i == 7 ? 0 : 0);
+                dueProve(x, text + line, 0);
             } else {
                 dueWrong(x, text + line, 5, text.length());
             }

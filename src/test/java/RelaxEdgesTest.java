@@ -109,7 +109,7 @@ final class RelaxEdgesTest {
 
     /** DOWN, OUTSIDE, STATE, FAULT, HARD. */
     private static void order() {
-        IntegerHouse x = rows(41);
+        IntegerHouse x = Checks.rows(41);
         Checks.read(x, "claim b = x != 1;");
         Checks.due("OUTSIDE goes before STATE", search(x, "!", 2, 1), IntegerHouse.OUTSIDE);
         Checks.due("OUTSIDE goes before STATE", search(x, "!", 0, 0), IntegerHouse.OUTSIDE);
@@ -284,27 +284,13 @@ final class RelaxEdgesTest {
 
     // ---- rows: 40 at most, like ones being one
 
-    private static IntegerHouse rows(int many) {
-        IntegerHouse x = Checks.house("var x y;");
-        int left = many;
-        for (int c = 0; left > 0; c++) {
-            StringBuilder text = new StringBuilder("claim c" + c + " = true");
-            for (int k = 0; k < 12 && left > 0; k++) {
-                text.append(" and x + ").append(c).append(" * y <= ").append(50 + k);
-                left--;
-            }
-            Checks.due("read", Checks.read(x, text + ";"), 1);
-        }
-        return x;
-    }
-
     private static void rowLimit() {
         for (int many = 39; many <= 42; many++) {
-            IntegerHouse x = rows(many);
+            IntegerHouse x = Checks.rows(many);
             Checks.due(many + " rows: relaxed", relax(x, "x"), many <= 40 ? 3 : IntegerHouse.HARD);
             Checks.due(many + " rows: search", search(x, "x", 0, 1), many <= 40 ? 3 : IntegerHouse.HARD);
         }
-        IntegerHouse x = rows(40);
+        IntegerHouse x = Checks.rows(40);
         Checks.read(x, "claim like = x <= 50 and x + y <= 50 and x < 51 and c0;");
         Checks.due("like ones are one", relax(x, "x"), 3);
         Checks.read(x, "claim other = 2 * x <= 100;");
@@ -313,7 +299,7 @@ final class RelaxEdgesTest {
         Checks.due("it is OFF", relax(x, "x"), 3);
         Checks.read(x, "claim equal = 2 * x = 100;");
         Checks.due("= is two of them", relax(x, "x"), IntegerHouse.HARD);
-        IntegerHouse y = rows(38);
+        IntegerHouse y = Checks.rows(38);
         Checks.read(y, "claim equal = 2 * x = 100;");
         Checks.due("40 with it", relax(y, "x"), 3);
         Checks.read(y, "claim none = 3 < 4 and x = x and true;");
@@ -321,11 +307,11 @@ final class RelaxEdgesTest {
     }
 
     private static void falseRows() {
-        IntegerHouse x = rows(39);
+        IntegerHouse x = Checks.rows(39);
         Checks.read(x, "claim f = 1 < 0 and x < x and 5 = 4; claim g = 0 > 7; claim h = f and g;");
         Checks.due("false ones are one row", relax(x, "x"), 0);
         Checks.due("no points", search(x, "x", 1, 1), 0);
-        IntegerHouse y = rows(40);
+        IntegerHouse y = Checks.rows(40);
         Checks.read(y, "claim f = x < x;");
         Checks.due("it is one", relax(y, "x"), IntegerHouse.HARD);
         y.on(y.count(1) - 1, false);
@@ -384,7 +370,7 @@ final class RelaxEdgesTest {
     }
 
     private static void bestToldLast() {
-        IntegerHouse x = rows(41);
+        IntegerHouse x = Checks.rows(41);
         Checks.due("HARD", search(x, "x", 0, 1), IntegerHouse.HARD);
         Checks.dueThrow("of one that was not HARD", IndexOutOfBoundsException.class, () -> x.best(1));
         for (int c = 0; c < x.count(1); c++) {
@@ -445,10 +431,10 @@ final class RelaxEdgesTest {
         Model model = new Model();
         String text = "var x y z w;claim a = -16*x - 13*y + 11*z - 16*w = 19 and x >= -7 and x <= 9 and y >= -3 and y <= 7"
             + " and z >= -9 and z <= 8 and w >= -6 and w <= 5;";
-        feed(model, text);
+        Checks.tape(model, text);
         Checks.due("read", model.read(), 1);
         for (int most = 1; most <= 12; most++) {
-            feed(model, "5*x - 3*y + 7*z - 2*w");
+            Checks.tape(model, "5*x - 3*y + 7*z - 2*w");
             Checks.due("search(1, " + most + ")", search(x, "5*x - 3*y + 7*z - 2*w", 1, most), model.search(1, most));
             for (int k = 0; k < 7; k++) {
                 Checks.due("best(" + k + ")", x.best(k), model.best(k));
@@ -457,18 +443,6 @@ final class RelaxEdgesTest {
         }
         Checks.due("search(1, 1)", search(x, "5*x - 3*y + 7*z - 2*w", 1, 1), 2);
         Checks.due("three cuts were made", x.best(2), 3);
-    }
-
-    private static void feed(Model model, String text) {
-        model.end(0);
-        for (int from = 0; from < text.length(); from += 20) {
-            int[] n = new int[5];
-            for (int k = 0; k < 20 && from + k < text.length(); k++) {
-                n[k / 4] |= text.charAt(from + k) << 24 - 8 * (k % 4);
-            }
-            model.feed(n[0], n[1], n[2], n[3], n[4]);
-        }
-        model.end(text.length());
     }
 
     /** A cut with a factor of 200 comes, one of 201 would come: STUCK. The plain model has the same numbers. */

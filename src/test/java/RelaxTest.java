@@ -136,22 +136,8 @@ final class RelaxTest {
         dueFractions("20 x - 20 y", y, 99999 + 20 * 99998, 1, 99999, 20, -99998, 1);
     }
 
-    private static IntegerHouse rowsOf(int many) {
-        IntegerHouse x = Checks.house("var x y;");
-        int left = many;
-        for (int c = 0; left > 0; c++) {
-            StringBuilder text = new StringBuilder("claim c" + c + " = true");
-            for (int k = 0; k < 12 && left > 0; k++) {
-                text.append(" and x + ").append(c).append(" * y <= ").append(50 + k);
-                left--;
-            }
-            Checks.due("read", Checks.read(x, text + ";"), 1);
-        }
-        return x;
-    }
-
     private static void rows() {
-        IntegerHouse x = rowsOf(40);
+        IntegerHouse x = Checks.rows(40);
         Checks.due("40 rows", relax(x, "x"), 3);
         Checks.read(x, "claim like = x + 1 * y <= 50;");
         Checks.due("like ones are one", relax(x, "x"), 3);
@@ -162,10 +148,10 @@ final class RelaxTest {
         Checks.due("count(4)", x.count(4), 0);
         Checks.dueThrow("best", IndexOutOfBoundsException.class, () -> x.best(0));
         Checks.due("a fault is told before", relax(x, "x x"), -1002);
-        IntegerHouse y = rowsOf(40);
+        IntegerHouse y = Checks.rows(40);
         Checks.read(y, "claim f = 1 < 0 and x < x;");
         Checks.due("what is false is a row", relax(y, "x"), IntegerHouse.HARD);
-        IntegerHouse z = rowsOf(39);
+        IntegerHouse z = Checks.rows(39);
         Checks.read(z, "claim f = 1 < 0 and x < x; claim g = 1 = 0;");
         Checks.due("but once", relax(z, "x"), 0);
     }
