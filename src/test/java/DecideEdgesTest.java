@@ -679,10 +679,11 @@ final class DecideEdgesTest {
 
     /** Own forms of some thousand places, against the plain model. */
     private static void ownOfMany() {
+        String others = "var x y z; claim a = true; claim b = true; claim c = true; claim d = true; claim e = true;";
         String[] texts = {PLACES_3000, PLACES_3000.replace("a and b and c and d and e", "(a or b) == (c or d and e)"),
             PLACES_3001.replace("88", "87").replace("claim all = a and b", "claim all = a -> b").replace("<= 176", "<= 170"),
-            "var x y z; claim a = true; claim b = true; claim c = true; claim d = true; claim e = true;"
-                + "claim f = 7 divides x + 2 * y - z and 11 divides 3 * x - y + 5 * z or 9 divides x + y;"};
+            others + "claim f = 7 divides x + 2 * y - z and 11 divides 3 * x - y + 5 * z or 9 divides x + y;",
+            others + "claim f = (11 divides x + 2 * y == 7 divides x - 3 * y) == (9 divides 2 * x + y == x + 3 * y <= 5);"};
         for (String text : texts) {
             IntegerHouse x = Checks.house(text);
             Model model = new Model();

@@ -24,6 +24,7 @@ final class RelaxEdgesTest {
         cutNumbers();
         halfNumbers();
         noEnd();
+        greatNumbers();
         refused();
         Checks.finish();
     }
@@ -517,6 +518,41 @@ final class RelaxEdgesTest {
         // rows without points go before what has no end
         IntegerHouse y = Checks.house("var x y; claim a = x <= 5 and x >= 6;");
         Checks.due("no points", search(y, "y", 0, 100), 0);
+    }
+
+    /** Rows of factors that are all 20 or nearly so: numbers on the way are the greatest. Against the plain model. */
+    private static void greatNumbers() {
+        String[][] problems = {
+            {"20*x - 19*y + 20*z - 20*w = 465 and -20*x - 20*y - 20*z - 20*w = 768 and 20*x - 20*y - 20*z + 20*w <= 750"
+                + " and -20*x - 20*y + 20*z + 20*w <= 87192 and -20*x + 20*y + 20*z - 20*w <= 26 and y >= -3051 and y <= 8386 and w <= 4431",
+                "20*x - 20*y - 20*z + 20*w"},
+            {"-20*x + 17*y + 17*z - 15*w <= 72519 and 20*x - 19*y + 19*z - 20*w <= 330 and -15*x + 20*y + 15*z + 14*w = 10"
+                + " and -17*x - 19*y - 15*z - 19*w <= 10097 and 20*x + 17*y - 16*z - 19*w <= 364 and y >= -6507 and y <= 3758 and z >= -4731",
+                "20*x - 20*y - 20*z - 20*w"},
+            {"20*x - 19*y + 19*z + 20*w <= 396 and 20*x + 20*y + 20*z - 20*w <= 129 and 20*x - 20*y + 19*z - 20*w <= 978"
+                + " and 20*x - 20*y - 20*z + 19*w <= 324 and 20*x + 19*y + 19*z - 19*w <= 694 and z <= 8398", "19*x + 18*z - 7*w"},
+            {"20*x + 20*y + 20*z + 20*w <= 99999 and 20*x - 20*y + 20*z - 20*w <= 99999 and 20*x + 20*y - 20*z - 20*w <= 99998"
+                + " and 20*x - 20*y - 20*z + 20*w <= 99997 and x >= -99999 and y >= -99999 and z >= -99999 and w >= -99999",
+                "20*x + 19*y + 19*z - 20*w"}};
+        for (String[] problem : problems) {
+            String text = "var x y z w;claim a = " + problem[0] + ";";
+            IntegerHouse x = Checks.house(text);
+            Model model = new Model();
+            Checks.tape(model, text);
+            Checks.due("read", model.read(), 1);
+            Checks.tape(model, problem[1]);
+            Checks.due("relaxed of " + problem[1], relax(x, problem[1]), model.relaxed());
+            for (int k = 0; k < 10; k++) {
+                Checks.due("fraction(" + k + ")", x.fraction(k), model.fraction(k));
+            }
+            for (int way = 0; way < 2; way++) {
+                Checks.tape(model, problem[1]);
+                Checks.due("search of " + problem[1], search(x, problem[1], way, 30), model.search(way, 30));
+                for (int k = 0; k < 7; k++) {
+                    Checks.due("best(" + k + ")", x.best(k), model.best(k));
+                }
+            }
+        }
     }
 
     private static void refused() {
