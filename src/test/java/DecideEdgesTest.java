@@ -8,6 +8,10 @@ final class DecideEdgesTest {
     private static final String PLACES_3001 = "var x y; claim a = -9 * x - 4 * y <= -68; claim b = -4 * x + 6 * y <= -39;"
         + "claim c = 5 divides 2 * x + 3 * y + 2; claim d = -3 * x + 6 * y <= 176; claim e = true;"
         + "claim all = a and b and c and d and e;";
+    /** Of this one all 3000 places are so for other values. */
+    private static final String STATES_3000 = "var x y; claim a = -8 * x - 7 * y <= -62; claim b = x - 8 * y <= 194;"
+        + "claim c = -x - y <= 211; claim d = -x + y <= 52; claim e = 5 divides 4 * x + 4 * y + 1;"
+        + "claim all = ((a == b) == (c == d)) == e;";
 
     public static void main(String[] args) {
         heights();
@@ -17,6 +21,7 @@ final class DecideEdgesTest {
         follows();
         atomsAtWork();
         placesAtWork();
+        lastPlace();
         workOfHidden();
         hardTellsNothing();
         extremeSizes();
@@ -279,6 +284,24 @@ final class DecideEdgesTest {
         Checks.due("asked besides", follows(y, "d"), IntegerHouse.HARD);
         Checks.tape(y, "1 if d");
         Checks.due("asked besides", y.extreme(true), IntegerHouse.HARD);
+    }
+
+    /** One of the models of 3000 places is come to by the last place. */
+    private static void lastPlace() {
+        IntegerHouse x = Checks.house("var x y; claim a = x + 3 * y <= 49; claim b = -7 * x + 7 * y <= -25; claim c = -9 * x + 8 * y <= 219;"
+            + "claim d = -x + 4 * y <= -21; claim e = 5 divides 2 * x + 4 * y + 3; claim all = a and b and c and not d and not e;");
+        for (int claim = 0; claim < 5; claim++) {
+            x.on(claim, false);
+        }
+        int models = 0;
+        for (int a = -512; a < 512; a++) {
+            for (int b = -512; b < 512; b++) {
+                boolean all = a + 3 * b <= 49 && 7 * b - 7 * a <= -25 && 8 * b - 9 * a <= 219 && 4 * b - a > -21;
+                models += all && Math.floorMod(2 * a + 4 * b + 3, 5) != 0 ? 1 : 0;
+            }
+        }
+        Checks.due("places", x.places(), 3000);
+        Checks.due("many", x.many(), models);
     }
 
     /** What is named is at work, what is OFF is not, whatever its size. */
@@ -680,7 +703,7 @@ final class DecideEdgesTest {
     /** Own forms of some thousand places, against the plain model. */
     private static void ownOfMany() {
         String others = "var x y z; claim a = true; claim b = true; claim c = true; claim d = true; claim e = true;";
-        String[] texts = {PLACES_3000, PLACES_3000.replace("a and b and c and d and e", "(a or b) == (c or d and e)"),
+        String[] texts = {PLACES_3000, STATES_3000, PLACES_3000.replace("a and b and c and d and e", "(a or b) == (c or d and e)"),
             PLACES_3001.replace("88", "87").replace("claim all = a and b", "claim all = a -> b").replace("<= 176", "<= 170"),
             others + "claim f = 7 divides x + 2 * y - z and 11 divides 3 * x - y + 5 * z or 9 divides x + y;",
             others + "claim f = (11 divides x + 2 * y == 7 divides x - 3 * y) == (9 divides 2 * x + y == x + 3 * y <= 5);"};
@@ -691,6 +714,7 @@ final class DecideEdgesTest {
             Checks.due("read", model.read(), 6);
             int states = x.own(5);
             Checks.due("states of " + text, states, model.own(5));
+            Checks.due("3000 states", states == 3000 ? 1 : 0, text.equals(STATES_3000) ? 1 : 0);
             for (int k = 0; k < states; k++) {
                 for (int letter = 0; letter < 1 << x.count(0); letter++) {
                     Checks.due("half(" + k + ", " + letter + ")", x.half(k, letter), model.half(k, letter));
